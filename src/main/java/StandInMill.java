@@ -72,7 +72,7 @@ public final class StandInMill {
     private int standCount;
     private final Draft draft = new Draft(types);
     private final UnitWriter writer = new UnitWriter();
-    /** Whether the interfaces' METHODS are those of now: gathering them is dear, and many stands may fail in a row. */
+    /** Whether the interfaces' METHODS are those of now: gathering is dear, and many stands may fail in a row. */
     private boolean gathered;
     private int latestFault;
     private long latestOutcome = NONE;
@@ -112,7 +112,6 @@ public final class StandInMill {
         faces[faceCount] = new Face(loader, name, pack, open);
         faceCount++;
         types.addFace(type);
-        gathered = false;
         return type;
     }
 
@@ -214,7 +213,11 @@ public final class StandInMill {
         if (latestFault != 0) {
             throw new IllegalArgumentException("a fault");
         }
-        return makeStand(loader, listed);
+        StandIn made = madeOfDraft(loader, listed);
+        made.unit = writer.write(made);
+        stands[standCount] = made;
+        standCount++;
+        return standCount - 1;
     }
 
     public int fault() {
@@ -526,14 +529,11 @@ public final class StandInMill {
         gathered = true;
     }
 
-    private int makeStand(int loader, int listed) {
+    private StandIn madeOfDraft(int loader, int listed) {
         int pack = packageOf(listed);
         StandIn made = new StandIn(loader, listed, pack, standsOfPackage(pack), draft.size);
         draft.handOver(made.methods);
-        made.unit = writer.write(made);
-        stands[standCount] = made;
-        standCount++;
-        return standCount - 1;
+        return made;
     }
 
     private int standsOfPackage(int pack) {

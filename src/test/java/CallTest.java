@@ -100,6 +100,8 @@ public final class CallTest {
         CHECK.due("a far NONE", Check.call(x, 0, 5, (1L << 32) - 1, 0, 0), Check.ILLEGAL);
         CHECK.due("not below", Check.call(x, 0, 5, THROWN_ONE, 0, 0), Check.ILLEGAL);
         CHECK.due("a wrong third", Check.call(x, 0, 5, CHECKED, 0, 7), Check.ILLEGAL);
+        CHECK.due("object 0 is one", Check.call(x, 0, 5, CHECKED, 0, 0), 1);
+        CHECK.due("one not there is not, for ROOT either", Check.call(x, 0, 1, 7, 0, 0), Check.ILLEGAL);
         CHECK.due("right ones", Check.call(x, 0, 5, CHECKED, 99, 6), 1);
         CHECK.due("one below", Check.call(x, 0, 5, LOWER, 99, -1), 1);
         CHECK.due("what is too many does not count", Check.call(x, 0, 6, -1, 99, 99), 1);

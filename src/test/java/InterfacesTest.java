@@ -62,6 +62,14 @@ public final class InterfacesTest {
         CHECK.due("no loader below", x.find(-1, 3, 1), -1);
         CHECK.due("no name", x.find(0, 99, 1), -1);
         CHECK.due("no package", x.find(0, 3, -1), -1);
+        StandInMill deep = new StandInMill();
+        deep.loader(0);
+        deep.loader(1);
+        deep.loader(2);
+        deep.face(3, 0, 0, true);
+        CHECK.due("its own, three deep", deep.find(3, 0, 0), 24);
+        deep.face(0, 0, 0, true);
+        CHECK.due("the first one's, three deep", deep.find(3, 0, 0), 25);
     }
 
     private static void extending() {

@@ -11,6 +11,7 @@ public final class StandTest {
         packages();
         results();
         resultsAgainstRoot();
+        afterAFault();
         howManyMethods();
         howManyClasses();
         whatIsTold();
@@ -177,6 +178,25 @@ public final class StandTest {
         CHECK.due("has both", x.about(0, 2), 4);
         CHECK.due("ROOT's first", x.told(0, 2, 1), 7);
         CHECK.due("then the other", x.told(0, 3, 1), 8);
+    }
+
+    /** What comes between a fault and the next stand is in that one. */
+    private static void afterAFault() {
+        StandInMill x = ofResults(5, 6);
+        fault("a fault", x, 4, 24, 25);
+        x.method(25, 1, 5);
+        x.face(0, 9, 0, true);
+        fault("still", x, 4, 24, 25);
+        x.extend(26, 25);
+        x.throwing(25, 1, 12);
+        stand("a parent and a method", x, 0, 26, 0, 0);
+        CHECK.due("methods", x.about(0, 2), 5);
+        CHECK.due("the later one", x.told(0, 4, 0), 1);
+        CHECK.due("throws", x.told(0, 4, 16), 12);
+        CHECK.due("ROOT's throw nothing", x.told(0, 2, 16), 0);
+        stand("the next class", x, 0, 24, 1, 0);
+        CHECK.due("leaves the first one's methods", x.told(0, 3, 1), 6);
+        CHECK.due("and has its own", x.told(1, 3, 1), 5);
     }
 
     private static void howManyMethods() {
