@@ -3,7 +3,7 @@ import java.util.HashMap;
 import java.util.List;
 import java.util.Map;
 
-/** The document's words once more, as plainly as they can be put and without care for room: what the mill is held against. */
+/** The document's words once more, put plainly and without care for room: what the mill is held against. */
 final class PlainModel {
     record Method(int owner, int number, int name, List<Integer> parameters, int result, List<Integer> thrown) {
         boolean sameSignature(Method other) {
@@ -233,7 +233,8 @@ final class PlainModel {
         Stand made = new Stand();
         made.loader = loader;
         made.list = list;
-        made.pack = list.stream().map(f -> faces.get(f - 24)).filter(f -> !f.open).map(Face::pack).findFirst().orElse(4);
+        made.pack = list.stream().map(f -> faces.get(f - 24)).filter(f -> !f.open).map(Face::pack)
+                .findFirst().orElse(4);
         made.number = (int) stands.stream().filter(s -> s.pack == made.pack).count();
         made.methods = methods;
         made.unit = unitOf(made);

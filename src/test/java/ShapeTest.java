@@ -12,8 +12,8 @@ public final class ShapeTest {
     private static final Set<String> FACE = Set.of(
             "int loader(int)", "int type(int)", "int face(int,int,int,boolean)", "boolean extend(int,int)",
             "int method(int,int,int)", "boolean throwing(int,int,int)", "int object(int,long)", "long value(int,int)",
-            "boolean below(int,int)", "int find(int,int,int)", "int stand(int,int)", "int fault()", "int about(int,int)",
-            "int told(int,int,int)", "int octet(int,int)", "boolean handler(int,int,boolean)",
+            "boolean below(int,int)", "int find(int,int,int)", "int stand(int,int)", "int fault()",
+            "int about(int,int)", "int told(int,int,int)", "int octet(int,int)", "boolean handler(int,int,boolean)",
             "int call(int,int,long,long,long)", "long outcome()", "long seen(int)");
 
     public static void main(String[] args) {
