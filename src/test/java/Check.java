@@ -52,6 +52,25 @@ final class Check {
         return packed;
     }
 
+    /**
+     * Ints that are the number of nothing: the smallest and largest ones, those next to 0, and those whose lowest bits
+     * alone are the ones of a number that there is (0 to 63).
+     */
+    static int[] farFrom(int number) {
+        return new int[] {
+            Integer.MIN_VALUE, Integer.MIN_VALUE + 1, Integer.MIN_VALUE + number, number - 65536, number - 256, -2, -1,
+            number + 64, number + 128, number + 256, number + 65536, number + (1 << 24), number + (1 << 30),
+            Integer.MAX_VALUE - 1, Integer.MAX_VALUE};
+    }
+
+    /** The same for longs; NONE is not among them. */
+    static long[] farFrom(long number) {
+        return new long[] {
+            Long.MIN_VALUE, Long.MIN_VALUE + 1, Long.MIN_VALUE + number, number - (1L << 32), Integer.MIN_VALUE, -3, -2,
+            number + 64, number + 256, number + 65536, number + (1L << 31), number + (1L << 32), (1L << 32) - 1,
+            number + (1L << 62), Integer.MAX_VALUE, Long.MAX_VALUE - 1, Long.MAX_VALUE};
+    }
+
     /** Fails the run if an answer was wrong, or if nothing was looked at. */
     void end() {
         System.out.println(looked + " answers, " + wrong + " of them wrong");

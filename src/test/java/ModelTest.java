@@ -1,9 +1,14 @@
 import java.util.Random;
 
-/** All promises: long runs of mixed calls, the mill's answers held against the plain model's. The seeds are fixed. */
+/**
+ * All promises: runs of mixed calls, as long as an object may be used, the mill's answers held against the plain
+ * model's. The seeds are fixed.
+ */
 public final class ModelTest {
-    private static final int RUNS = 1500;
-    private static final int CALLS = 480;
+    private static final int RUNS = 12000;
+    private static final int CALLS = 512;
+    /** How many calls at the end of a run look at what stands there by then. */
+    private static final int LOOKS = 120;
     private static final Check CHECK = new Check();
 
     private final Random random;
@@ -20,6 +25,7 @@ public final class ModelTest {
     private int faces;
     private int stands;
     private int things;
+    private int left = CALLS;
 
     private ModelTest(int run) {
         this.run = run;
@@ -46,8 +52,8 @@ public final class ModelTest {
     }
 
     private void go(int[] faults, int[] outcomes) {
-        for (int i = 0; i < CALLS; i++) {
-            boolean building = i < setUp;
+        while (left > LOOKS) {
+            boolean building = CALLS - left < setUp;
             int kind = random.nextInt(100);
             if (building && kind < 94) {
                 build(wide && kind > 50 && kind < 85 ? 40 : kind);
@@ -59,15 +65,19 @@ public final class ModelTest {
                 build(random.nextInt(100));
             }
         }
-        lookAtAll();
+        while (left > 0) {
+            look();
+        }
     }
 
+    /** Each answer that is looked at is one call of the mill. */
     private void due(String call, long got, long want) {
+        left--;
         CHECK.due("run " + run + ": " + call, got, want);
     }
 
     private void due(String call, boolean got, boolean want) {
-        CHECK.due("run " + run + ": " + call, got, want);
+        due(call, got ? 1 : 0, want ? 1 : 0);
     }
 
     private boolean rarely() {
@@ -207,32 +217,33 @@ public final class ModelTest {
 
     private void lookAtCall() {
         due("outcome", mill.outcome(), model.outcome());
-        for (int what = -1; what < 10; what++) {
+        for (int look = 0; look < 3; look++) {
+            int what = random.nextInt(11) - 1;
             due("seen " + what, mill.seen(what), model.seen(what));
         }
     }
 
-    private void lookAtAll() {
-        for (int object = -1; object < 33; object++) {
-            for (int what = -1; what < 3; what++) {
-                due("value", mill.value(object, what), model.value(object, what));
-            }
-        }
-        for (int a = -1; a < 50; a++) {
-            for (int b = -1; b < 50; b++) {
-                due("below " + a + " " + b, mill.below(a, b), model.below(a, b));
-            }
-        }
-        for (int stand = -1; stand < 17; stand++) {
-            for (int what = -1; what < 6; what++) {
-                due("about " + stand + " " + what, mill.about(stand, what), model.about(stand, what));
-            }
-            for (int k = -1; k <= model.about(stand, 2); k++) {
-                for (int what = -1; what < 50; what++) {
-                    due("told " + stand + " " + k + " " + what, mill.told(stand, k, what), model.told(stand, k, what));
-                }
-            }
-            for (int i = -1; i <= model.about(stand, 3); i++) {
+    private void look() {
+        int stand = rarely() || stands == 0 ? random.nextInt(19) - 1 : random.nextInt(stands);
+        int kind = random.nextInt(12);
+        if (kind == 0) {
+            int object = random.nextInt(35) - 1;
+            int what = random.nextInt(rarely() ? 4 : 2) - (rarely() ? 1 : 0);
+            due("value " + object + " " + what, mill.value(object, what), model.value(object, what));
+        } else if (kind == 1) {
+            int a = random.nextInt(52) - 2;
+            int b = random.nextInt(52) - 2;
+            due("below " + a + " " + b, mill.below(a, b), model.below(a, b));
+        } else if (kind < 4) {
+            int what = random.nextInt(7) - 1;
+            due("about " + stand + " " + what, mill.about(stand, what), model.about(stand, what));
+        } else if (kind < 8) {
+            int k = random.nextInt(Math.max(1, model.about(stand, 2)) + 2) - 1;
+            int what = random.nextBoolean() ? random.nextInt(8) : random.nextInt(2) * 16 + 15 + random.nextInt(6);
+            due("told " + stand + " " + k + " " + what, mill.told(stand, k, what), model.told(stand, k, what));
+        } else {
+            int from = random.nextInt(Math.max(1, model.about(stand, 3)) + 2) - 1;
+            for (int i = from; i < from + 8 && left > 0; i++) {
                 due("octet " + stand + " " + i, mill.octet(stand, i), model.octet(stand, i));
             }
         }

@@ -65,14 +65,15 @@ public final class TypesAndLoadersTest {
     }
 
     private static void belowOfWhatIsThereAtFirst() {
-        StandInMill x = new StandInMill();
         for (int a = -3; a <= 60; a++) {
+            StandInMill x = new StandInMill();
             for (int b = -3; b <= 60; b++) {
                 boolean made = a >= 7 && a <= 10 || a >= 41 && a <= 46;
                 boolean want = a == b || made && b == 7 || (a == 9 || a == 10) && b == 8;
                 CHECK.due("below " + a + " " + b, x.below(a, b), want);
             }
         }
+        StandInMill x = new StandInMill();
         CHECK.due("far ones", x.below(Integer.MIN_VALUE, Integer.MIN_VALUE), true);
         CHECK.due("64 more is another", x.below(9 + 64, 8), false);
         CHECK.due("64 more above is another", x.below(9, 8 + 64), false);
