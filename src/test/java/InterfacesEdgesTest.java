@@ -22,6 +22,7 @@ public final class InterfacesEdgesTest {
         parentsHideNothingOfOneAnother();
         hiddenByOneParentAlone();
         methodsOfTheWholeChain();
+        methodsThatComeByManyWays();
         rootsThree();
         CHECK.end();
     }
@@ -160,12 +161,22 @@ public final class InterfacesEdgesTest {
         CHECK.due("a new one neither", x.extend(27, 24), false);
     }
 
+    /** What comes behind a refused stand is in the next class. */
     private static void extendBehindARefusedStand() {
-        StandInMill x = withFaces(3);
-        Check.stand(x, 0, 24, 24);
-        Check.stand(x, 0, 36);
-        Check.stand(x, 9, 24);
+        StandInMill x = withFaces(4);
+        x.method(24, 0, 5);
+        x.method(25, 0, 6);
+        x.method(26, 1, 5);
+        CHECK.due("twice", Check.stand(x, 0, 24, 24), Check.ILLEGAL);
+        CHECK.due("they disagree", Check.stand(x, 0, 24, 25, 26), Check.ILLEGAL);
+        CHECK.due("no interface", Check.stand(x, 0, 36), Check.OUT_OF_BOUNDS);
+        CHECK.due("no loader", Check.stand(x, 9, 24), Check.OUT_OF_BOUNDS);
         CHECK.due("no class has been made", x.extend(26, 24), true);
+        CHECK.due("nor here", Check.stand(x, 0, 26, 25), Check.ILLEGAL);
+        CHECK.due("they disagree by a parent now", x.fault(), 4);
+        CHECK.due("no class has been made", x.extend(27, 26), true);
+        CHECK.due("made", Check.stand(x, 0, 27), 0);
+        methods("with both parents'", x, 0, of(26, 0), of(24, 0));
     }
 
     private static void refusedExtendsLeaveNothing() {
@@ -315,6 +326,27 @@ public final class InterfacesEdgesTest {
                 of(27, 0), of(26, 0), of(25, 0), of(24, 0));
         Check.stand(x, 0, 25);
         methods("two", x, 1, of(25, 0), of(24, 0));
+    }
+
+    /** Each has the two before it as parents, so that 25's method comes to 34 by 55 ways; it counts once. */
+    private static void methodsThatComeByManyWays() {
+        StandInMill x = withFaces(12);
+        x.method(24, 25, 5);
+        x.method(35, 0, 5);
+        x.extend(35, 34);
+        x.extend(35, 24);
+        for (int f = 25; f <= 34; f++) {
+            x.method(f, f - 24, 5);
+            x.method(f, 1, 5 | 5 << 8);
+            if (f >= 27) {
+                x.extend(f, f - 1);
+                x.extend(f, f - 2);
+            }
+        }
+        x.extend(26, 25);
+        CHECK.due("made", Check.stand(x, 0, 35), 0);
+        methods("each once, the last parent's at the end", x, 0, of(35, 0), of(34, 0), of(34, 1), of(33, 0), of(32, 0),
+                of(31, 0), of(30, 0), of(29, 0), of(28, 0), of(27, 0), of(26, 0), of(25, 0), of(24, 0));
     }
 
     /** "ROOT has three: name 26, no parameters, result 5; name 27, a parameter 7, result 1; name 28, .. result 7." */

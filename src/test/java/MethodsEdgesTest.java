@@ -201,12 +201,27 @@ public final class MethodsEdgesTest {
         CHECK.due("nothing came", x.about(1, 2), 4);
     }
 
+    /** What comes behind a refused stand is in the next class, before its parent's METHODS. */
     private static void methodBehindARefusedStand() {
         StandInMill x = withFace();
-        x.method(24, 26, 6);
-        CHECK.due("a fault", Check.stand(x, 0, 24), Check.ILLEGAL);
+        x.face(0, 1, 0, true);
+        x.face(0, 2, 0, true);
+        x.extend(25, 24);
+        x.method(24, 0, 5);
+        x.method(24, 1, 5);
+        x.method(26, 26, 6);
+        CHECK.due("a fault", Check.stand(x, 0, 25, 26), Check.ILLEGAL);
         CHECK.due("no such loader", Check.stand(x, 1, 24), Check.OUT_OF_BOUNDS);
-        CHECK.due("no class has been made", x.method(24, 1, 5), 1);
+        CHECK.due("no class has been made", x.method(25, 2, 5), 0);
+        CHECK.due("nor now", x.method(25, 0, 6), 1);
+        Check.stand(x, 0, 25);
+        int[][] want = {{2, 5, 25}, {0, 6, 25}, {1, 5, 24}};
+        CHECK.due("three", x.about(0, 2), 3 + want.length);
+        for (int m = 0; m < want.length; m++) {
+            CHECK.due("name of " + m, x.told(0, 3 + m, 0), want[m][0]);
+            CHECK.due("result of " + m, x.told(0, 3 + m, 1), want[m][1]);
+            CHECK.due("owner of " + m, x.told(0, 3 + m, 5), want[m][2]);
+        }
     }
 
     private static void refusedMethodsTakeNoNumber() {
@@ -319,9 +334,14 @@ public final class MethodsEdgesTest {
 
     private static void throwingBehindARefusedStand() {
         StandInMill x = withMethods(1);
+        x.face(0, 1, 0, true);
+        x.method(25, 0, 5);
         CHECK.due("a fault", Check.stand(x, 0, 24, 24), Check.ILLEGAL);
-        CHECK.due("no interface", Check.stand(x, 0, 25), Check.OUT_OF_BOUNDS);
+        CHECK.due("another fault", Check.stand(x, 0, 24, 25), Check.ILLEGAL);
+        CHECK.due("no interface", Check.stand(x, 0, 26), Check.OUT_OF_BOUNDS);
         CHECK.due("no class has been made", x.throwing(24, 0, 9), true);
+        Check.stand(x, 0, 24);
+        CHECK.due("the class has it", x.told(0, 3, 16), 9);
     }
 
     private static void refusedThrowingLeavesNothing() {

@@ -127,8 +127,8 @@ public final class TypesEdgesTest {
             {true, false, false, false}, {true, true, false, false},
             {true, true, true, false}, {true, true, false, true}};
         for (int a = 7; a <= 10; a++) {
-            for (int b = 7; b <= 10; b++) {
-                CHECK.due("below " + a + " " + b, x.below(a, b), below[a - 7][b - 7]);
+            for (int b = -2; b <= 66; b++) {
+                CHECK.due("below " + a + " " + b, x.below(a, b), b >= 7 && b <= 10 && below[a - 7][b - 7]);
             }
         }
     }

@@ -301,18 +301,21 @@ public final class UnitEdgesTest {
             for (int type = 11; type <= 23; type++) {
                 x.type(type == 11 ? 8 : type - 1);
             }
+            for (int f = 0; f < 5; f++) {
+                x.face(0, f, 1, true);
+            }
             for (int f = 0; f < 7; f++) {
                 x.face(0, f, 2, f > 0);
                 for (int m = 0; m < (f == 6 ? 1 : 6); m++) {
                     int result = (f + m) % 2 == 0 ? 1 + m : 8 + 2 * f + m;
-                    x.method(24 + f, (7 * f + m) % 26, result | 6 << 8 | 1 + f % 6 << 16 | 6 << 24);
-                    x.throwing(24 + f, m, 23 - m);
-                    x.throwing(24 + f, m, 11 + f);
-                    x.throwing(24 + f, m, m == 5 ? 8 : 10);
+                    x.method(29 + f, (7 * f + m) % 26, result | 6 << 8 | 1 + f % 6 << 16 | 6 << 24);
+                    x.throwing(29 + f, m, 23 - m);
+                    x.throwing(29 + f, m, 11 + f);
+                    x.throwing(29 + f, m, m == 5 ? 8 : 10);
                 }
-                x.extend(24 + f, 23 + f);
+                x.extend(29 + f, f == 0 ? 24 : 28 + f);
             }
-            Check.stand(x, 0, 30, 24);
+            Check.stand(x, 0, 35, 29);
             return x;
         };
         StandInMill x = maker.get();
@@ -321,7 +324,7 @@ public final class UnitEdgesTest {
         CHECK.due("more than 2000 bytes", x.about(0, 3) > 2000, true);
         CHECK.due("more than 80 entries", x.octet(0, 2) > 80, true);
         CHECK.due("no byte behind", x.octet(0, x.about(0, 3)), -1);
-        readAll("the largest", maker, 30, 24);
+        readAll("the largest", maker, 35, 29);
     }
 
     /** A joined method that may THROW all sixteen classes, and one with many CAUGHT. */
